@@ -182,6 +182,17 @@ public final class ActionsTest {
         x.setLength(0, 50);
         Due.is("undo() is no action", 0, x.undo());
         Due.notNow("undo() of undo()", x::undo);
+        // The crossing that was taken back is there for no call any more.
+        ClosedStreets back = Due.town(SAMPLE);
+        back.addCrossing();
+        back.undo();
+        Due.missing("crossing(4, 0) behind undo()", () -> back.crossing(4, 0));
+        Due.missing("between(0, 4) behind undo()", () -> back.between(0, 4));
+        Due.missing("saves(0, 4, 1) behind undo()", () -> back.saves(0, 4, 1));
+        Due.missing("setEnds(0, 4) behind undo()", () -> back.setEnds(0, 4));
+        back.setEnds(1, 2);
+        back.undo();
+        Due.is("ways(11) behind undo()", 1, back.ways(11));
     }
 
     private static void refusedCallsChangeNothing() {

@@ -32,6 +32,7 @@ public final class ModelTest {
         }
         for (int i = 0; i < 40; i++) {
             change();
+            question();
             if (i % 8 == 0) {
                 questions();
             }
@@ -185,6 +186,91 @@ public final class ModelTest {
         }
     }
 
+    /** One question straight behind a change, with arguments that may be out of range. */
+    private void question() {
+        int a = near(0, town.crossings - 1);
+        int b = near(0, town.crossings - 1);
+        int s = near(0, town.streets.size() - 1);
+        int length = near(1, 99);
+        int place = near(0, town.crossings - 1);
+        int what = near(0, 4);
+        boolean noStreet = !town.hasStreet(s);
+        boolean noPair = !town.hasCrossing(a) || !town.hasCrossing(b);
+        switch (random.nextInt(11)) {
+            case 0:
+                asked("about(" + what + ")", false, what < 0, () -> town.about(what),
+                        () -> x.about(what));
+                break;
+            case 1:
+                asked("street(" + s + ", " + what + ")", noStreet, what < 0 || what > 4,
+                        () -> town.street(s, what), () -> x.street(s, what));
+                break;
+            case 2:
+                asked("crossing(" + a + ", " + what + ")", !town.hasCrossing(a),
+                        what < 0 || what > 3, () -> town.crossing(a, what),
+                        () -> x.crossing(a, what));
+                break;
+            case 3:
+                asked("between(" + a + ", " + b + ")", noPair, false, () -> town.between(a, b),
+                        () -> x.between(a, b));
+                break;
+            case 4:
+                asked("wayAt(" + place + ")", false, place < 0, () -> town.at(place),
+                        () -> x.wayAt(place));
+                break;
+            case 5:
+                asked("without(" + s + ")", noStreet, false, () -> town.closedToo(s).length(),
+                        () -> x.without(s));
+                break;
+            case 6:
+                asked("withoutAt(" + s + ", " + place + ")", noStreet, place < 0,
+                        () -> town.closedToo(s).at(place), () -> x.withoutAt(s, place));
+                break;
+            case 7:
+                asked("upTo(" + s + ")", noStreet, false, () -> town.upTo(s), () -> x.upTo(s));
+                break;
+            case 8:
+                asked("saves(" + a + ", " + b + ", " + length + ")", noPair,
+                        a == b || length < 1 || length > 99, () -> town.saves(a, b, length),
+                        () -> x.saves(a, b, length));
+                break;
+            default:
+                bareQuestion(random.nextInt(5));
+        }
+    }
+
+    private void bareQuestion(int which) {
+        long seed = random.nextLong();
+        switch (which) {
+            case 0:
+                due("dearest()", town.dearest(), x::dearest);
+                break;
+            case 1:
+                due("middle()", town.middle(), x::middle);
+                break;
+            case 2:
+                due("ways(999)", town.ways(999), () -> x.ways(999));
+                break;
+            case 3:
+                due("simulate(" + seed + ", 7)", town.simulate(seed, 7),
+                        () -> x.simulate(seed, 7));
+                break;
+            default:
+                script();
+        }
+    }
+
+    private void asked(String call, boolean missing, boolean outOfRange, Due.Call model,
+            Due.Call made) {
+        if (missing) {
+            Due.missing(call, made);
+        } else if (outOfRange) {
+            Due.outOfRange(call, made);
+        } else {
+            due(call, model.answer(), made);
+        }
+    }
+
     private void questions() {
         for (int what = 0; what < 8; what++) {
             int w = what;
@@ -225,8 +311,7 @@ public final class ModelTest {
         due("withoutAt(" + s + ", " + place + ")", without.at(place),
                 () -> x.withoutAt(s, place));
         if (random.nextInt(4) == 0) {
-            due("upTo(" + s + ")", town.street(s, 3) == 1 ? TownModel.NONE : town.upTo(s),
-                    () -> x.upTo(s));
+            due("upTo(" + s + ")", town.upTo(s), () -> x.upTo(s));
         }
     }
 

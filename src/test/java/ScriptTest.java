@@ -90,6 +90,7 @@ public final class ScriptTest {
         script(1, 80009, NONE);
         script(1, 80001, 0);
         script(1, 80000, 0);
+        script(1, 80010, 0);
         script(1, 80012, 0);
         script(1, 80102, 0);
         script(1, 81002, 0);
