@@ -1,7 +1,8 @@
-/** Promises 11 to 18: actions and undo. */
+/** Promises 11 to 18, sentence by sentence: actions and undo. */
 public final class ActionsTest {
     private static final int NONE = ClosedStreets.NONE;
-    private static final String SAMPLE = "T402s0105s1206s0220s2301x";
+    private static final String LENGTH_THEN =
+            "Returns the length of the best way then; NONE without one.";
 
     public static void main(String[] args) {
         addCrossing();
@@ -10,201 +11,351 @@ public final class ActionsTest {
         setLength();
         close();
         setEnds();
-        runPlan();
+        Doc plan = Doc.promise(17);
+        planCommands(plan);
+        planStops(plan);
+        planIsOneAction(plan);
+        plan.isTested();
         undo();
-        refusedCallsChangeNothing();
         Due.end();
     }
 
     private static void addCrossing() {
-        ClosedStreets x = new ClosedStreets();
-        for (int c = 2; c < 9; c++) {
-            Due.is("addCrossing()", c, x.addCrossing());
-            Due.is("open streets of a new crossing", 0, x.crossing(c, 0));
+        Doc doc = Doc.promise(11);
+        doc.says("Adds a crossing behind all others, without streets.");
+        ClosedStreets x = Towns.sample();
+        x.addCrossing();
+        Due.is("crossings", 5, x.about(0));
+        Due.inOrder("crossing(4, what)", what -> x.crossing(4, what), 0, NONE, NONE, NONE);
+        Due.inOrder("between(4, c)", c -> x.between(4, c), NONE, NONE, NONE, NONE, NONE);
+        Due.is("streets", 4, x.about(1));
+        doc.says("Returns its number.");
+        ClosedStreets y = new ClosedStreets();
+        for (int c = 2; c <= 8; c++) {
+            Due.is("addCrossing()", c, y.addCrossing());
         }
-        Due.notNow("addCrossing() to 9", x::addCrossing);
-        Due.is("crossings", 9, x.about(0));
-        Due.is("undo() of 7 actions", 6, x.undo());
-        Due.is("crossings behind undo()", 8, x.about(0));
+        doc.says("Throws IllegalStateException if there are 9 crossings");
+        Due.notNow("addCrossing() to 9", y::addCrossing);
+        Due.notNow("addCrossing() to 9 again", y::addCrossing);
+        Due.is("crossings", 9, y.about(0));
+        Due.notNow("addCrossing() to 9 that were loaded", Towns.of("T901")::addCrossing);
+        Due.is("undo() of 7 actions", 6, y.undo());
+        Due.is("addCrossing() to 8", 8, y.addCrossing());
+        Due.is("addCrossing() to 8 that were loaded", 8, Towns.of("T801").addCrossing());
+        doc.isTested();
     }
 
     private static void addStreet() {
-        ClosedStreets x = Due.town(SAMPLE);
-        Due.is("addStreet(3, 0, 99)", 4, x.addStreet(3, 0, 99));
-        Due.row("the new street", Due.state(x),
+        Doc doc = Doc.promise(12);
+        doc.says("Adds a street, which is open.");
+        ClosedStreets x = Towns.sample();
+        x.addStreet(3, 0, 99);
+        Due.row("state", Towns.state(x),
                 "4 5 1 0 2 11 2 0 |0 1 5 0 1|1 2 6 0 1|0 2 20 0 0|2 3 1 1 0|0 3 99 0 0");
-        Due.is("addStreet(1, 3, 1)", 5, x.addStreet(1, 3, 1));
-        Due.missing("addStreet(4, 0, 1)", () -> x.addStreet(4, 0, 1));
-        Due.missing("addStreet(0, 4, 1)", () -> x.addStreet(0, 4, 1));
-        Due.missing("addStreet(-1, 0, 1)", () -> x.addStreet(-1, 0, 1));
-        Due.missing("addStreet(0, -1, 0)", () -> x.addStreet(0, -1, 0));
-        Due.missing("addStreet(4, 4, 0)", () -> x.addStreet(4, 4, 0));
-        Due.outOfRange("addStreet(1, 1, 1)", () -> x.addStreet(1, 1, 1));
-        Due.outOfRange("addStreet(0, 1, 0)", () -> x.addStreet(0, 1, 0));
-        Due.outOfRange("addStreet(0, 1, 100)", () -> x.addStreet(0, 1, 100));
-        Due.notNow("addStreet(0, 1, 1) again", () -> x.addStreet(0, 1, 1));
-        Due.notNow("addStreet(1, 0, 1) again", () -> x.addStreet(1, 0, 1));
-        Due.notNow("addStreet(3, 2, 1) beside a closed one", () -> x.addStreet(3, 2, 1));
-        ClosedStreets full = full();
-        Due.is("streets", 20, full.about(1));
-        Due.notNow("addStreet to 20 streets", () -> full.addStreet(7, 8, 1));
-        Due.outOfRange("addStreet of 100 to 20 streets", () -> full.addStreet(7, 8, 100));
-        Due.outOfRange("addStreet(8, 8, 1) to 20 streets", () -> full.addStreet(8, 8, 1));
-        Due.is("removeStreet of one of 20", 1, full.removeStreet(4));
-        Due.is("addStreet in its place", 19, full.addStreet(7, 8, 1));
-    }
-
-    private static ClosedStreets full() {
-        StringBuilder town = new StringBuilder("T901");
-        for (int a = 0; a < 4; a++) {
-            for (int k = 1; k <= 5; k++) {
-                town.append('s').append(a).append(a + k).append("01");
-            }
-        }
-        return Due.town(town.toString());
+        // The number of a street that was closed and removed.
+        x.close(4, true);
+        x.removeStreet(4);
+        x.addStreet(3, 1, 2);
+        Due.inOrder("street(4, what)", what -> x.street(4, what), 1, 3, 2, 0, 0);
+        doc.says("- a: crossing - b: crossing");
+        ClosedStreets y = Towns.of("T901");
+        Due.is("addStreet(0, 8, 3)", 0, y.addStreet(0, 8, 3));
+        Due.is("addStreet(8, 1, 3)", 1, y.addStreet(8, 1, 3));
+        Due.row("way", Towns.way(y), "081");
+        doc.says("- length: 1 to 99");
+        Due.is("addStreet(2, 3, 1)", 2, y.addStreet(2, 3, 1));
+        Due.is("street(2, 2)", 1, y.street(2, 2));
+        Due.is("addStreet(2, 4, 99)", 3, y.addStreet(2, 4, 99));
+        Due.is("street(3, 2)", 99, y.street(3, 2));
+        doc.says("Returns its number.");
+        Due.is("addStreet to none", 0, new ClosedStreets().addStreet(0, 1, 1));
+        ClosedStreets full = Towns.full();
+        full.removeStreet(4);
+        Due.is("addStreet to 19", 19, full.addStreet(7, 8, 1));
+        doc.says("Throws IndexOutOfBoundsException if there is no such crossing");
+        Due.eachMissing("addStreet(c, 0, 1)", c -> x.addStreet(c, 0, 1), -1, 4, Due.LEAST,
+                Due.GREATEST);
+        Due.eachMissing("addStreet(0, c, 1)", c -> x.addStreet(0, c, 1), -1, 4, Due.LEAST,
+                Due.GREATEST);
+        Due.eachMissing("addStreet(c, c, 0)", c -> x.addStreet(c, c, 0), -1, 4);
+        Due.eachMissing("addStreet(9, c, 1) to 20", c -> full.addStreet(9, c, 1), 0, 9);
+        doc.says("Throws IllegalArgumentException if both are the same, or length is out of"
+                + " range");
+        Due.eachOutOfRange("addStreet(c, c, 1)", c -> x.addStreet(c, c, 1), 0, 1, 2, 3);
+        Due.eachOutOfRange("addStreet(0, 3, n)", n -> x.addStreet(0, 3, n), 0, 100, -1,
+                Due.LEAST, Due.GREATEST);
+        Due.eachOutOfRange("addStreet(0, 1, n), joined", n -> x.addStreet(0, 1, n), 0, 100);
+        Due.eachOutOfRange("addStreet(7, 8, n) to 20", n -> full.addStreet(7, 8, n), 0, 100);
+        Due.eachOutOfRange("addStreet(c, c, 1) to 20", c -> full.addStreet(c, c, 1), 0, 8);
+        doc.says("Throws IllegalStateException if a street joins them, or there are 20 streets");
+        Due.notNow("addStreet(0, 1, 5)", () -> x.addStreet(0, 1, 5));
+        Due.notNow("addStreet(1, 0, 1)", () -> x.addStreet(1, 0, 1));
+        Due.notNow("addStreet(3, 2, 1), closed", () -> x.addStreet(3, 2, 1));
+        Due.notNow("addStreet(6, 7, 1) to 20", () -> full.addStreet(6, 7, 1));
+        Due.notNow("addStreet(0, 1, 1) to 20", () -> full.addStreet(0, 1, 1));
+        doc.isTested();
     }
 
     private static void removeStreet() {
-        ClosedStreets x = Due.town(SAMPLE);
-        Due.is("removeStreet(1)", 20, x.removeStreet(1));
-        Due.row("streets behind removeStreet(1)", Due.state(x),
+        Doc doc = Doc.promise(13);
+        doc.says("Removes a street; those behind it get numbers that are smaller by 1.");
+        ClosedStreets x = Towns.sample();
+        x.removeStreet(1);
+        Due.row("without a middle one", Towns.state(x),
                 "4 3 1 0 2 20 1 1 |0 1 5 0 0|0 2 20 0 1|2 3 1 1 0");
-        Due.is("removeStreet(2), the last one", 20, x.removeStreet(2));
-        Due.is("removeStreet(1)", NONE, x.removeStreet(1));
-        Due.missing("removeStreet(1) of 1", () -> x.removeStreet(1));
-        Due.missing("removeStreet(-1)", () -> x.removeStreet(-1));
-        Due.is("removeStreet(0)", NONE, x.removeStreet(0));
-        Due.missing("removeStreet(0) of none", () -> x.removeStreet(0));
-        Due.is("undo()", 3, x.undo());
-        Due.is("undo()", 2, x.undo());
-        Due.is("undo()", 1, x.undo());
-        Due.is("undo()", 0, x.undo());
-        Due.row("streets behind undo()", Due.state(x),
-                "4 4 1 0 2 11 2 0 |0 1 5 0 1|1 2 6 0 1|0 2 20 0 0|2 3 1 1 0");
+        x.removeStreet(2);
+        Due.row("without the last one", Towns.state(x), "4 2 0 0 2 20 1 1 |0 1 5 0 0|0 2 20 0 1");
+        x.removeStreet(0);
+        Due.row("without the first one", Towns.state(x), "4 1 0 0 2 20 1 1 |0 2 20 0 1");
+        x.removeStreet(0);
+        Due.row("without the only one", Towns.state(x), "4 0 0 0 2 -999 -999 0 ");
+        ClosedStreets full = Towns.full();
+        full.removeStreet(0);
+        Due.is("streets", 19, full.about(1));
+        Due.is("between(0, 2)", 0, full.between(0, 2));
+        Due.is("between(3, 8)", 18, full.between(3, 8));
+        doc.says("- s: street");
+        full.removeStreet(18);
+        Due.is("between(3, 8)", NONE, full.between(3, 8));
+        doc.says(LENGTH_THEN);
+        ClosedStreets y = Towns.sample();
+        Due.is("removeStreet(3), closed", 11, y.removeStreet(3));
+        Due.is("removeStreet(1)", 20, y.removeStreet(1));
+        Due.is("removeStreet(1)", NONE, y.removeStreet(1));
+        Due.is("removeStreet(0)", NONE, y.removeStreet(0));
+        doc.says("Throws IndexOutOfBoundsException if there is no such street");
+        Due.eachMissing("removeStreet of none", y::removeStreet, -1, 0, 1);
+        Due.eachMissing("removeStreet of 4", Towns.sample()::removeStreet, -1, 4, Due.LEAST,
+                Due.GREATEST);
+        Due.eachMissing("removeStreet of 20", Towns.full()::removeStreet, -1, 20);
+        doc.isTested();
     }
 
     private static void setLength() {
-        ClosedStreets x = Due.town(SAMPLE);
-        Due.is("setLength(1, 16)", 6, x.setLength(1, 16));
+        Doc doc = Doc.promise(14);
+        doc.says("Changes the length of a street.");
+        ClosedStreets x = Towns.sample();
+        x.setLength(1, 16);
+        Due.is("street(1, 2)", 16, x.street(1, 2));
         Due.is("best length", 20, x.about(5));
+        x.setLength(3, 98);
+        Due.inOrder("street(3, what), closed", what -> x.street(3, what), 2, 3, 98, 1, 0);
+        doc.says("- s: street");
+        Due.is("setLength(0, 6)", 5, x.setLength(0, 6));
+        Due.is("setLength(19, 2)", 1, Towns.full().setLength(19, 2));
+        doc.says("- length: 1 to 99");
         Due.is("setLength(1, 1)", 16, x.setLength(1, 1));
-        Due.is("setLength(3, 99) of a closed one", 1, x.setLength(3, 99));
-        Due.is("street(3, 3)", 1, x.street(3, 3));
-        Due.missing("setLength(4, 1)", () -> x.setLength(4, 1));
-        Due.missing("setLength(-1, 0)", () -> x.setLength(-1, 0));
-        Due.outOfRange("setLength(0, 0)", () -> x.setLength(0, 0));
-        Due.outOfRange("setLength(0, 100)", () -> x.setLength(0, 100));
-        Due.is("undo()", 2, x.undo());
+        Due.is("setLength(1, 99)", 1, x.setLength(1, 99));
+        Due.is("street(1, 2)", 99, x.street(1, 2));
+        doc.says("Returns its previous length.");
+        Due.is("setLength(1, 99) again", 99, x.setLength(1, 99));
+        Due.is("setLength(1, 50)", 99, x.setLength(1, 50));
+        Due.is("setLength(3, 1), closed", 98, x.setLength(3, 1));
+        doc.says("Throws IndexOutOfBoundsException if there is no such street");
+        Due.eachMissing("setLength(s, 1)", s -> x.setLength(s, 1), -1, 4, Due.LEAST,
+                Due.GREATEST);
+        Due.eachMissing("setLength(s, 0)", s -> x.setLength(s, 0), -1, 4);
+        Due.eachMissing("setLength(s, 100)", s -> x.setLength(s, 100), -1, 4);
+        Due.eachMissing("setLength(s, 1) of none", s -> new ClosedStreets().setLength(s, 1), 0);
+        doc.says("Throws IllegalArgumentException if length is out of range");
+        Due.eachOutOfRange("setLength(0, n)", n -> x.setLength(0, n), 0, 100, -1, Due.LEAST,
+                Due.GREATEST);
+        Due.eachOutOfRange("setLength(3, n)", n -> x.setLength(3, n), 0, 100);
+        doc.isTested();
     }
 
     private static void close() {
-        ClosedStreets x = Due.town(SAMPLE);
+        Doc doc = Doc.promise(15);
+        doc.says("Closes or opens a street.");
+        ClosedStreets x = Towns.sample();
+        x.close(0, true);
+        x.close(3, false);
+        Due.inOrder("street(s, 3)", s -> x.street(s, 3), 1, 0, 0, 0);
+        doc.says("- s: street");
+        ClosedStreets full = Towns.full();
+        Due.is("close(0, true)", 2, full.close(0, true));
+        Due.is("close(19, true)", 2, full.close(19, true));
+        Due.is("closed ones", 2, full.about(2));
+        doc.says("- is: whether it is closed then");
+        x.close(0, true);
+        Due.is("street(0, 3)", 1, x.street(0, 3));
+        x.close(0, false);
+        Due.is("street(0, 3)", 0, x.street(0, 3));
+        x.close(0, false);
+        Due.is("street(0, 3)", 0, x.street(0, 3));
+        doc.says(LENGTH_THEN);
         Due.is("close(0, true)", 20, x.close(0, true));
         Due.is("close(2, true)", NONE, x.close(2, true));
         Due.is("close(2, true) again", NONE, x.close(2, true));
         Due.is("close(0, false)", 11, x.close(0, false));
-        Due.is("street(0, 3)", 0, x.street(0, 3));
-        Due.is("street(2, 3)", 1, x.street(2, 3));
-        Due.missing("close(4, true)", () -> x.close(4, true));
-        Due.missing("close(-1, false)", () -> x.close(-1, false));
-        Due.is("undo(): an action without a change is one", 3, x.undo());
+        Due.is("close(0, false) again", 11, x.close(0, false));
+        doc.says("Throws IndexOutOfBoundsException if there is no such street");
+        Due.eachMissing("close(s, true)", s -> x.close(s, true), -1, 4, Due.LEAST, Due.GREATEST);
+        Due.eachMissing("close(s, false)", s -> x.close(s, false), -1, 4);
+        Due.eachMissing("close(s, true) of 20", s -> full.close(s, true), -1, 20);
+        Due.eachMissing("close(s, true) of none", s -> new ClosedStreets().close(s, true), 0);
+        doc.isTested();
     }
 
     private static void setEnds() {
-        ClosedStreets x = Due.town(SAMPLE);
-        Due.is("setEnds(2, 1)", 6, x.setEnds(2, 1));
-        Due.is("setEnds(3, 0)", NONE, x.setEnds(3, 0));
+        Doc doc = Doc.promise(16);
+        doc.says("Changes the start and the goal.");
+        ClosedStreets x = Towns.sample();
+        x.setEnds(3, 1);
         Due.is("start", 3, x.about(3));
+        Due.is("goal", 1, x.about(4));
+        doc.says("- start: crossing - goal: crossing");
+        ClosedStreets y = Towns.of("T901s0809");
+        Due.is("setEnds(0, 8)", 9, y.setEnds(0, 8));
+        Due.is("setEnds(8, 0)", 9, y.setEnds(8, 0));
+        Due.is("start", 8, y.about(3));
+        Due.is("goal", 0, y.about(4));
+        doc.says(LENGTH_THEN);
+        Due.is("setEnds(2, 1)", 6, x.setEnds(2, 1));
+        Due.is("setEnds(2, 3)", NONE, x.setEnds(2, 3));
+        Due.is("setEnds(2, 0)", 11, x.setEnds(2, 0));
+        Due.is("setEnds(2, 0) again", 11, x.setEnds(2, 0));
+        doc.says("Throws IndexOutOfBoundsException if there is no such crossing");
+        Due.eachMissing("setEnds(c, 0)", c -> x.setEnds(c, 0), -1, 4, Due.LEAST, Due.GREATEST);
+        Due.eachMissing("setEnds(0, c)", c -> x.setEnds(0, c), -1, 4, Due.LEAST, Due.GREATEST);
+        Due.eachMissing("setEnds(c, c)", c -> x.setEnds(c, c), -1, 4);
+        Due.eachMissing("setEnds(c, 0) of 9", c -> y.setEnds(c, 0), 9);
+        doc.says("Throws IllegalArgumentException if both are the same");
+        Due.eachOutOfRange("setEnds(c, c)", c -> x.setEnds(c, c), 0, 1, 2, 3);
+        Due.is("start", 2, x.about(3));
         Due.is("goal", 0, x.about(4));
-        Due.missing("setEnds(4, 0)", () -> x.setEnds(4, 0));
-        Due.missing("setEnds(0, 4)", () -> x.setEnds(0, 4));
-        Due.missing("setEnds(-1, -1)", () -> x.setEnds(-1, -1));
-        Due.outOfRange("setEnds(3, 3)", () -> x.setEnds(3, 3));
-        Due.is("undo()", 1, x.undo());
-        Due.is("start behind undo()", 2, x.about(3));
+        doc.isTested();
     }
 
+    /** Runs a plan on the sample town. */
     private static void plan(String told, int want, String state) {
-        ClosedStreets x = Due.town(SAMPLE);
-        Due.write(x, told);
-        String before = Due.state(x);
+        ClosedStreets x = Towns.sample();
+        Towns.write(x, told);
         Due.is("runPlan() of '" + told + "'", want, x.runPlan());
-        Due.row("state behind '" + told + "'", Due.state(x), state);
-        Due.is("undo(): a plan is one action", 0, x.undo());
-        Due.row("state behind undo() of '" + told + "'", Due.state(x), before);
-        Due.is("clearText(): the plan stays", told.length(), x.clearText());
+        Due.row("state behind '" + told + "'", Towns.state(x), state);
+        Due.is("undo() of '" + told + "'", 0, x.undo());
+        Due.row("state behind undo() of '" + told + "'", Towns.state(x), Towns.SAMPLE_STATE);
     }
 
-    private static void runPlan() {
-        String same = "4 4 1 0 2 11 2 0 |0 1 5 0 1|1 2 6 0 1|0 2 20 0 0|2 3 1 1 0";
-        plan("", 0, same);
+    private static void planCommands(Doc doc) {
+        doc.says("Does the commands of the plan in the text, one after the other:");
+        plan("close 0 open 0 close 1", 3,
+                "4 4 2 0 2 20 1 1 |0 1 5 0 0|1 2 6 1 0|0 2 20 0 1|2 3 1 1 0");
+        plan("long 0 9 long 0 99 long 0 1", 3,
+                "4 4 1 0 2 7 2 0 |0 1 1 0 1|1 2 6 0 1|0 2 20 0 0|2 3 1 1 0");
+        plan("ends 3 0 ends 1 0", 2,
+                "4 4 1 1 0 5 1 0 |0 1 5 0 1|1 2 6 0 0|0 2 20 0 0|2 3 1 1 0");
+        doc.says("open s is close(s, false),");
+        plan("open 3", 1, "4 4 0 0 2 11 2 0 |0 1 5 0 1|1 2 6 0 1|0 2 20 0 0|2 3 1 0 0");
+        plan("open 00", 1, Towns.SAMPLE_STATE);
+        doc.says("close s is close(s, true),");
+        plan("close 0", 1, "4 4 2 0 2 20 1 1 |0 1 5 1 0|1 2 6 0 0|0 2 20 0 1|2 3 1 1 0");
+        plan("close 03", 1, Towns.SAMPLE_STATE);
+        doc.says("long s n is setLength(s, n),");
+        plan("long 1 99", 1, "4 4 1 0 2 20 1 0 |0 1 5 0 0|1 2 99 0 0|0 2 20 0 1|2 3 1 1 0");
+        plan("long 02 01", 1, "4 4 1 0 2 1 1 0 |0 1 5 0 0|1 2 6 0 0|0 2 1 0 1|2 3 1 1 0");
+        doc.says("ends a b is setEnds(a, b),");
+        plan("ends 2 1", 1, "4 4 1 2 1 6 1 0 |0 1 5 0 0|1 2 6 0 1|0 2 20 0 0|2 3 1 1 0");
+        plan("ends 00 03", 1,
+                "4 4 1 0 3 -999 -999 0 |0 1 5 0 0|1 2 6 0 0|0 2 20 0 0|2 3 1 1 0");
+        doc.says("turn is setEnds(the goal, the start).");
         plan("turn", 1, "4 4 1 2 0 11 2 0 |0 1 5 0 1|1 2 6 0 1|0 2 20 0 0|2 3 1 1 0");
-        plan("turn turn", 2, same);
-        plan("open 3 ends 1 03", 2, "4 4 0 1 3 7 2 1 |0 1 5 0 0|1 2 6 0 1|0 2 20 0 0|2 3 1 0 1");
-        plan("close 00 close 2", 2,
-                "4 4 3 0 2 -999 -999 0 |0 1 5 1 0|1 2 6 0 0|0 2 20 1 0|2 3 1 1 0");
-        plan("long 1 99 long 2 05", 2, "4 4 1 0 2 5 1 0 |0 1 5 0 0|1 2 99 0 0|0 2 5 0 1|2 3 1 1 0");
-        plan("open 4 turn", 0, same);
-        plan("close 4 turn", 0, same);
-        plan("long 4 1 turn", 0, same);
-        plan("long 0 0 turn", 0, same);
-        plan("long 0 00 turn", 0, same);
-        plan("ends 1 1 turn", 0, same);
-        plan("ends 4 1 turn", 0, same);
-        plan("ends 0 10 turn", 0, same);
-        plan("turn open 99 turn", 1,
-                "4 4 1 2 0 11 2 0 |0 1 5 0 1|1 2 6 0 1|0 2 20 0 0|2 3 1 1 0");
-        ClosedStreets x = Due.town(SAMPLE);
-        Due.write(x, "turn ");
-        Due.notNow("runPlan() of a text that is no plan", x::runPlan);
-        Due.row("state behind it", Due.state(x), same);
-        Due.notNow("undo(): what throws is no action", x::undo);
-        Due.write(x, SAMPLE);
-        Due.notNow("runPlan() of a town", x::runPlan);
-        Due.write(x, "turn");
+        plan("turn turn", 2, Towns.SAMPLE_STATE);
+        plan("ends 1 3 turn", 2,
+                "4 4 1 3 1 -999 -999 0 |0 1 5 0 0|1 2 6 0 0|0 2 20 0 0|2 3 1 1 0");
+        doc.says("Returns the number of commands that are done.");
+        plan("turn ".repeat(27) + "turn", 28, Towns.SAMPLE_STATE);
+        plan("turn open 0 long 0 5 close 3 ends 0 2", 5, Towns.SAMPLE_STATE);
+        ClosedStreets full = Towns.full();
+        Towns.write(full, "close 19 close 09 long 19 42");
+        Due.is("runPlan() on 20 streets", 3, full.runPlan());
+        Due.is("street(19, 2)", 42, full.street(19, 2));
+        Due.is("closed ones", 2, full.about(2));
+    }
+
+    private static void planStops(Doc doc) {
+        doc.says("It stops ahead of the first one that would throw an exception.");
+        for (String refused : new String[] {"open 4", "open 99", "close 4", "close 20",
+            "long 4 1", "long 0 0", "long 00 00", "long 4 0", "ends 4 0", "ends 0 4", "ends 1 1",
+            "ends 9 9", "ends 10 0", "ends 0 99", "ends 0 00"}) {
+            plan(refused, 0, Towns.SAMPLE_STATE);
+            plan(refused + " turn", 0, Towns.SAMPLE_STATE);
+            plan("turn " + refused + " turn", 1,
+                    "4 4 1 2 0 11 2 0 |0 1 5 0 1|1 2 6 0 1|0 2 20 0 0|2 3 1 1 0");
+        }
+        plan("long 0 10 close 1 close 4 close 2", 2,
+                "4 4 2 0 2 20 1 1 |0 1 10 0 0|1 2 6 1 0|0 2 20 0 1|2 3 1 1 0");
+        ClosedStreets none = new ClosedStreets();
+        Towns.write(none, "turn open 0 turn");
+        Due.is("runPlan() without streets", 1, none.runPlan());
+    }
+
+    private static void planIsOneAction(Doc doc) {
+        doc.says("All together is one action, also if no command is done.");
+        plan("", 0, Towns.SAMPLE_STATE);
+        plan("open 4", 0, Towns.SAMPLE_STATE);
+        ClosedStreets x = Towns.sample();
+        x.addCrossing();
+        Towns.write(x, "turn close 0 turn long 0 9");
+        Due.is("runPlan()", 4, x.runPlan());
+        x.clearText();
+        Due.is("runPlan() of no command", 0, x.runPlan());
+        Due.is("undo() of no command", 2, x.undo());
+        Due.is("street(0, 2)", 9, x.street(0, 2));
+        Due.is("undo() of four commands", 1, x.undo());
+        Due.is("street(0, 2)", 5, x.street(0, 2));
+        Due.is("street(0, 3)", 0, x.street(0, 3));
+        doc.says("The text stays.");
+        Towns.write(x, "turn open 9");
         Due.is("runPlan()", 1, x.runPlan());
+        Due.is("errorPosition(true)", NONE, x.errorPosition(true));
         Due.is("runPlan() again", 1, x.runPlan());
         Due.is("start", 0, x.about(3));
+        Due.is("clearText()", 11, x.clearText());
+        doc.says("Throws IllegalStateException if the text is not a plan");
+        for (String text : new String[] {"turn ", " turn", "turm", "T201", "open", "turn  turn",
+            "open 100", "close 0 turn clos"}) {
+            Towns.write(x, text);
+            Due.notNow("runPlan() of '" + text + "'", x::runPlan);
+        }
+        Due.is("closed ones behind wrong plans", 1, x.about(2));
+        Due.is("undo() behind wrong plans", 2, x.undo());
     }
 
     private static void undo() {
-        ClosedStreets x = new ClosedStreets();
-        x.addStreet(0, 1, 1);
-        for (int length = 2; length <= 20; length++) {
-            x.setLength(0, length);
+        Doc doc = Doc.promise(18);
+        doc.says("Takes back the last action that is remembered.");
+        ClosedStreets x = Towns.sample();
+        x.addCrossing();
+        x.close(0, true);
+        x.undo();
+        Due.is("street(0, 3)", 0, x.street(0, 3));
+        Due.is("crossings", 5, x.about(0));
+        x.undo();
+        Due.row("state", Towns.state(x), Towns.SAMPLE_STATE);
+        Due.missing("crossing(4, 0)", () -> x.crossing(4, 0));
+        x.addStreet(0, 3, 1);
+        x.undo();
+        Due.is("between(0, 3)", NONE, x.between(0, 3));
+        Due.missing("street(4, 0)", () -> x.street(4, 0));
+        x.setEnds(1, 2);
+        x.undo();
+        Due.is("ways(11)", 1, x.ways(11));
+        doc.says("Returns how many states are still remembered.");
+        for (int i = 0; i < 20; i++) {
+            x.setLength(0, 50 + i);
         }
         for (int left = 13; left >= 0; left--) {
             Due.is("undo()", left, x.undo());
-            Due.is("length behind undo()", left + 6, x.street(0, 2));
+            Due.is("street(0, 2)", 55 + left, x.street(0, 2));
         }
-        Due.notNow("undo() with none remembered", x::undo);
-        Due.is("length behind the last undo()", 6, x.street(0, 2));
-        x.setLength(0, 50);
-        Due.is("undo() is no action", 0, x.undo());
+        doc.says("Throws IllegalStateException if none is remembered");
+        Due.notNow("undo() of the 15th action", x::undo);
+        Due.notNow("undo() of a new object", new ClosedStreets()::undo);
+        Due.is("street(0, 2)", 55, x.street(0, 2));
+        x.setLength(0, 5);
+        Due.is("undo()", 0, x.undo());
         Due.notNow("undo() of undo()", x::undo);
-        // The crossing that was taken back is there for no call any more.
-        ClosedStreets back = Due.town(SAMPLE);
-        back.addCrossing();
-        back.undo();
-        Due.missing("crossing(4, 0) behind undo()", () -> back.crossing(4, 0));
-        Due.missing("between(0, 4) behind undo()", () -> back.between(0, 4));
-        Due.missing("saves(0, 4, 1) behind undo()", () -> back.saves(0, 4, 1));
-        Due.missing("setEnds(0, 4) behind undo()", () -> back.setEnds(0, 4));
-        back.setEnds(1, 2);
-        back.undo();
-        Due.is("ways(11) behind undo()", 1, back.ways(11));
-    }
-
-    private static void refusedCallsChangeNothing() {
-        ClosedStreets x = Due.town(SAMPLE);
-        String before = Due.state(x);
-        Due.told(() -> x.addStreet(0, 1, 1));
-        Due.told(() -> x.addStreet(0, 0, 1));
-        Due.told(() -> x.removeStreet(9));
-        Due.told(() -> x.setLength(0, 100));
-        Due.told(() -> x.close(9, true));
-        Due.told(() -> x.setEnds(1, 1));
-        Due.row("state behind refused calls", Due.state(x), before);
-        Due.notNow("undo(): refused calls are no actions", x::undo);
+        doc.isTested();
     }
 }

@@ -1,29 +1,37 @@
 /** Compares answers with those that are due, and tells each that is wrong. */
 final class Due {
+    static final int LEAST = Integer.MIN_VALUE;
+    static final int GREATEST = Integer.MAX_VALUE;
+
     interface Call {
         int answer();
     }
 
+    interface CallWith {
+        int answer(int argument);
+    }
+
     private static int wrong = 0;
     private static int asked = 0;
+    private static String sentence = "";
 
     private Due() {
     }
 
     static void is(String call, long want, long got) {
-        asked++;
-        if (got != want) {
-            wrong++;
-            System.out.println(call + " answered " + got + ", due is " + want);
-        }
+        row(call, got, want);
     }
 
     static void row(String calls, Object got, Object want) {
         asked++;
         if (!want.equals(got)) {
-            wrong++;
-            System.out.println(calls + " answered " + got + ", due is " + want);
+            complain(calls + " answered " + got + ", due is " + want);
         }
+    }
+
+    private static void complain(String what) {
+        wrong++;
+        System.out.println(what + (sentence.isEmpty() ? "" : " [" + sentence + "]"));
     }
 
     /** The answer as a text, or the exception's name behind "throws.". */
@@ -47,33 +55,38 @@ final class Due {
         row(call, told(made), "throws.IllegalStateException");
     }
 
-    static void write(ClosedStreets x, String text) {
-        x.clearText();
-        for (int i = 0; i < text.length(); i++) {
-            x.append(text.charAt(i));
+    static void eachMissing(String call, CallWith made, int... arguments) {
+        for (int argument : arguments) {
+            missing(call + " of " + argument, () -> made.answer(argument));
         }
     }
 
-    static ClosedStreets town(String text) {
-        ClosedStreets x = new ClosedStreets();
-        write(x, text);
-        x.load();
-        x.clearText();
-        return x;
+    static void eachOutOfRange(String call, CallWith made, int... arguments) {
+        for (int argument : arguments) {
+            outOfRange(call + " of " + argument, () -> made.answer(argument));
+        }
     }
 
-    /** All that the calls of the section "the town" tell of the state. */
-    static String state(ClosedStreets x) {
-        StringBuilder told = new StringBuilder();
-        for (int what = 0; what < 8; what++) {
-            told.append(x.about(what)).append(' ');
+    static void eachIs(String call, int want, CallWith made, int... arguments) {
+        for (int argument : arguments) {
+            row(call + " of " + argument, told(() -> made.answer(argument)), "" + want);
         }
-        for (int s = 0; s < x.about(1); s++) {
-            for (int what = 0; what < 5; what++) {
-                told.append(what == 0 ? '|' : ' ').append(x.street(s, what));
-            }
+    }
+
+    /** The answers to 0, 1, 2 and so on are these. */
+    static void inOrder(String call, CallWith made, int... wants) {
+        for (int i = 0; i < wants.length; i++) {
+            eachIs(call, wants[i], made, i);
         }
-        return told.toString();
+    }
+
+    /** The words of the document that the answers asked from here on are due by. */
+    static void by(String words) {
+        sentence = words;
+    }
+
+    static int asked() {
+        return asked;
     }
 
     static void end() {

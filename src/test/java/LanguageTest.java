@@ -1,4 +1,6 @@
 import java.io.IOException;
+import java.lang.reflect.Member;
+import java.lang.reflect.Modifier;
 import java.nio.charset.StandardCharsets;
 import java.nio.file.Files;
 import java.nio.file.Path;
@@ -28,9 +30,35 @@ public final class LanguageTest {
                     letters ? 0 : Pattern.LITERAL);
             Due.row("the program holds " + word, found.matcher(code).find(), false);
         }
+        face(code.replaceAll("\\s+", " "));
         ownNames(code);
         lengths(source);
         Due.end();
+    }
+
+    /** The class has what the document shows, and nothing else that can be seen from outside. */
+    private static void face(String code) {
+        Due.row("the class begins as the document shows it",
+                code.trim().startsWith("public final class ClosedStreets {"), true);
+        for (String line : Doc.face()) {
+            String shown = line.trim().replaceAll(";$", "");
+            Due.row("the class has " + shown, code.contains(shown), true);
+        }
+        Class<?> type = ClosedStreets.class;
+        Due.is("fields to be seen", 1, seen(type.getDeclaredFields()));
+        Due.is("methods to be seen", 28, seen(type.getDeclaredMethods()));
+        Due.is("constructors to be seen", 1, seen(type.getDeclaredConstructors()));
+        for (Class<?> inside : type.getDeclaredClasses()) {
+            Due.row(inside + " is static", Modifier.isStatic(inside.getModifiers()), true);
+        }
+    }
+
+    private static int seen(Member[] members) {
+        int seen = 0;
+        for (Member member : members) {
+            seen += Modifier.isPrivate(member.getModifiers()) || member.isSynthetic() ? 0 : 1;
+        }
+        return seen;
     }
 
     /** No method but those of the face bears a name of the face. */

@@ -60,7 +60,7 @@ public final class ModelTest {
     private void load() {
         town = TownModel.random(random);
         text = town.asText();
-        Due.write(x, text);
+        Towns.write(x, text);
         due("load()", town.streets.size(), x::load);
         remembered.clear();
         slots[0] = null;
@@ -157,7 +157,7 @@ public final class ModelTest {
             }
         }
         text = plan.toString();
-        Due.write(x, text);
+        Towns.write(x, text);
         due("errorPosition(true)", TownModel.NONE, () -> x.errorPosition(true));
         remember();
         due("runPlan() of '" + text + "'", town.runPlan(text), x::runPlan);

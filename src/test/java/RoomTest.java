@@ -9,9 +9,9 @@ public final class RoomTest {
     private static final int SMALLEST = 16;
 
     public static void main(String[] args) {
-        ClosedStreets x = Due.town("T908s2601s1701s7801s0501s1201s7201s0301s3201s1801s5201"
+        ClosedStreets x = Towns.of("T908s2601s1701s7801s0501s1201s7201s0301s3201s1801s5201"
                 + "s6301s1401s5401s7401s4601s6001s2401s6501s4301");
-        Due.write(x, "turn open 1 close 2 long 3 4 ends 0 8 turn");
+        Towns.write(x, "turn open 1 close 2 long 3 4 ends 0 8 turn");
         calls(x);
         long before = BEAN.getCurrentThreadAllocatedBytes();
         for (int i = 0; i < ROUNDS; i++) {

@@ -58,7 +58,7 @@ public final class TextModelTest {
 
     private static void compare(String text) {
         ClosedStreets x = new ClosedStreets();
-        Due.write(x, text);
+        Towns.write(x, text);
         Due.is("errorPosition(true) of '" + text + "'", planError(text), x.errorPosition(true));
         int error = townError(text);
         Due.is("errorPosition(false) of '" + text + "'", error, x.errorPosition(false));

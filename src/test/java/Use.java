@@ -1,0 +1,4 @@
+/** A call on an object that is made for it. */
+interface Use {
+    int on(ClosedStreets x);
+}
