@@ -15,11 +15,13 @@ public final class TextTest {
         Due.is("clearText()", 140, full.clearText());
         townHead(text);
         townStreets(text);
+        townLengths(text);
         townFull(text);
         planForm(text);
         planBlanks(text);
         planNumbers(text);
         errors(text);
+        endsTooSoon(text);
         text.isTested();
         errorPosition();
         load();
@@ -195,6 +197,9 @@ public final class TextTest {
         town("T301s0101xs01", 12);
         town("T301s0101s0201s10", 16);
         town("T401s0101s2301s3201", 16);
+    }
+
+    private static void townLengths(Doc doc) {
         doc.says("two digits from 01 to 99 for its length,");
         town("T201s0101", NONE);
         town("T201s0109", NONE);
@@ -408,6 +413,9 @@ public final class TextTest {
         town("T1", 1);
         town("T33", 2);
         town("T322", 3);
+    }
+
+    private static void endsTooSoon(Doc doc) {
         doc.says("if the text ends too soon, it is the length of the text.");
         String whole = "T301s0105";
         for (int length = 0; length < whole.length(); length++) {
